@@ -100,7 +100,10 @@ public final class CoinScripts {
         Arrays.fill(latest, NONE);
         latest[RUNS] = 0;
         latest[LENGTH] = tapeLength;
-        int verdict = judgeTape();
+        int verdict = readTape();
+        if (verdict == 0) {
+            verdict = transaction.take(scriptCount) ? ledger.judge(transaction, tapeLength) : NO_TRANSACTION;
+        }
         if (verdict == 0 && ledger.needsCollateral(transaction)) {
             verdict = runScripts();
         }
@@ -173,10 +176,10 @@ public final class CoinScripts {
     }
 
     public int scriptOf(int script, int what) {
-        if (script < 0 || script >= scriptCount) {
+        Term term = scriptAt(script);
+        if (term == null) {
             return NONE;
         }
-        Term term = scripts[script];
         switch (what) {
             case 0: return term.count;
             case 1: return term.depth;
@@ -203,74 +206,69 @@ public final class CoinScripts {
         }
     }
 
-    /** The VERDICT of phase one. */
-    private int judgeTape() {
+    /** The VERDICT up to 6. */
+    private int readTape() {
         nodes.top = 0;
         int fault = dataReader.readData(0, tapeLength);
         if (fault != 0) {
             latest[PLACE] = dataReader.place;
             return fault;
         }
-        if (dataReader.at < tapeLength) {
-            return BYTES_LEFT;
-        }
-        if (!transaction.take(scriptCount)) {
-            return NO_TRANSACTION;
-        }
-        return ledger.judge(transaction, tapeLength);
+        return dataReader.at < tapeLength ? BYTES_LEFT : 0;
     }
 
-    /** The VERDICT of PHASE TWO. */
+    /** The VERDICT of PHASE TWO: INPUTS run first, then POLICIES. */
     private int runScripts() {
         transaction.writeContext(ledger.spent);
-        // Each run begins behind the CONTEXT again: what one run made is of no use to the next.
-        int mark = nodes.top;
-        for (int i = 0; i < transaction.inputCount(); i++) {
-            long number = transaction.inputAt(i);
-            Output output = ledger.outputAt(number);
-            if (output != null && output.address >= OWNERS) {
-                nodes.top = mark;
-                transaction.pointContext(0, number);
-                int datum = readDatum(output);
-                if (!accepts(output.address - OWNERS, datum, transaction.redeemers[i])) {
+        int behindContext = nodes.top;
+        int inputs = transaction.inputCount();
+        for (int i = 0; i < inputs + transaction.policyCount; i++) {
+            Term term = i < inputs ? scriptOfInput(i) : scriptAt(transaction.policies[i - inputs] - 1);
+            if (term != null) {
+                // What an earlier run made is of no use any more.
+                nodes.top = behindContext;
+                int datum = i < inputs ? readDatum(transaction.inputAt(i)) : NONE;
+                transaction.pointContext(i);
+                machine.load(term, datum, transaction.redeemerOf(i), transaction.context);
+                machine.run();
+                tellRun(term);
+                if (!machine.hasAccepted()) {
                     return NOT_ACCEPTED;
                 }
-            }
-        }
-        for (int i = 0; i < transaction.policyCount; i++) {
-            int policy = transaction.policies[i];
-            nodes.top = mark;
-            transaction.pointContext(1, policy);
-            if (!accepts(policy - 1, NONE, transaction.policyRedeemers[i])) {
-                return NOT_ACCEPTED;
             }
         }
         return 0;
     }
 
-    /** The NODE at which the DATUM of an OUTPUT lies. */
-    private int readDatum(Output output) {
+    private Term scriptAt(int script) {
+        return script < 0 || script >= scriptCount ? null : scripts[script];
+    }
+
+    /** Null if the INPUT is of an OWNER. */
+    private Term scriptOfInput(int i) {
+        Output output = ledger.outputAt(transaction.inputAt(i));
+        return output == null ? null : scriptAt(output.address - OWNERS);
+    }
+
+    /** The NODE at which the DATUM of an OUTPUT lies, which is read for this. */
+    private int readDatum(long number) {
         int node = nodes.top;
-        System.arraycopy(output.datum, 0, nodes.bytes, Nodes.DATUM_AT, output.datum.length);
-        dataReader.readData(Nodes.DATUM_AT, Nodes.DATUM_AT + output.datum.length);
+        Output output = ledger.outputAt(number);
+        if (output != null) {
+            System.arraycopy(output.datum, 0, nodes.bytes, Nodes.DATUM_AT, output.datum.length);
+            dataReader.readData(Nodes.DATUM_AT, Nodes.DATUM_AT + output.datum.length);
+        }
         return node;
     }
 
-    private boolean accepts(int script, int datum, int redeemer) {
-        if (script < 0 || script >= scriptCount) {
-            return false;
-        }
-        Term term = scripts[script];
+    private void tellRun(Term term) {
         term.runs++;
-        machine.load(term, datum, redeemer, transaction.context);
-        machine.run();
+        allSteps += machine.steps;
         latest[RUNS]++;
         latest[ANSWER] = machine.answer;
         latest[STEPS] = machine.steps;
         latest[MEMORY] = machine.memory;
         latest[KIND] = machine.kindOfValue();
-        allSteps += machine.steps;
-        return machine.hasAccepted();
     }
 
     /** DATA: their NODES in rows, in the order of their numbers; the bytes of BYTES lie in one pool. */
@@ -307,7 +305,7 @@ public final class CoinScripts {
         int bytesTop;
 
         int add(int kind, int count, long number, int place) {
-            int node = Math.min(top, ROOM - 1);
+            int node = top < ROOM ? top : ROOM - 1;
             kinds[node] = (byte) kind;
             counts[node] = count;
             spans[node] = 1;
@@ -389,7 +387,7 @@ public final class CoinScripts {
                     ends[level] = behind(i);
                     level++;
                 }
-                deepest = Math.max(deepest, level);
+                deepest = level > deepest ? level : deepest;
             }
             return deepest;
         }
@@ -664,6 +662,7 @@ public final class CoinScripts {
         private static final int UNBOUND = 4;
         private static final int TOO_DEEP = 5;
         private static final int TOO_MANY = 6;
+        private static final long MOST_UNSIGNED = 2147483647;
 
         private final byte[] kinds = new byte[Term.MOST];
         private final long[] numbers = new long[Term.MOST];
@@ -818,7 +817,7 @@ public final class CoinScripts {
                 number |= (long) (group & 127) << (7 * k);
                 if (group < 128) {
                     boolean isLongWinded = k > 0 && group == 0;
-                    return isLongWinded || number > Integer.MAX_VALUE ? LONG_WINDED : 0;
+                    return isLongWinded || number > MOST_UNSIGNED ? LONG_WINDED : 0;
                 }
             }
             return LONG_WINDED;
@@ -991,7 +990,7 @@ public final class CoinScripts {
         private final Nodes nodes;
         private final int[] starts;
         private final int[] fields = new int[FIELDS];
-        final int[] redeemers = new int[MOST];
+        private final int[] redeemers = new int[MOST];
         final int[] addresses = new int[MOST];
         private final int[] addressNodes = new int[MOST];
         final Coins[] values = new Coins[MOST];
@@ -999,7 +998,7 @@ public final class CoinScripts {
         private final int[] datumEnds = new int[MOST];
         final Coins mint = new Coins(MOST);
         final int[] policies = new int[MOST];
-        final int[] policyRedeemers = new int[MOST];
+        private final int[] policyRedeemers = new int[MOST];
         int policyCount;
         int context;
 
@@ -1032,6 +1031,11 @@ public final class CoinScripts {
 
         long inputAt(int i) {
             return nodes.numbers[redeemers[i] - 1];
+        }
+
+        /** Of an INPUT, or behind these of a POLICY. */
+        int redeemerOf(int i) {
+            return i < inputCount() ? redeemers[i] : policyRedeemers[i - inputCount()];
         }
 
         int collateralCount() {
@@ -1226,21 +1230,24 @@ public final class CoinScripts {
             context = nodes.add(Nodes.CONSTRUCTOR, 8, 0, 0);
             nodes.addInteger(0);
             nodes.addInteger(0);
-            for (int field = FEE; field <= SIGNERS; field++) {
-                int copied = field == MINT ? fields[SIGNERS] : field == SIGNERS ? fields[MINT] : fields[field];
-                if (field != REDEEMERS) {
-                    nodes.copyRow(copied, nodes.spans[copied]);
-                }
-            }
+            copyField(FEE);
+            copyField(VALIDITY);
+            copyField(SIGNERS);
+            copyField(MINT);
             writeSpent(spent);
             writePaid();
             nodes.enclose(context);
         }
 
-        /** Says for which script the CONTEXT is. */
-        void pointContext(long kind, long number) {
-            nodes.numbers[context + 1] = kind;
-            nodes.numbers[context + 2] = number;
+        private void copyField(int field) {
+            nodes.copyRow(fields[field], nodes.spans[fields[field]]);
+        }
+
+        /** Says for which one the CONTEXT is: INPUTS count first, then POLICIES. */
+        void pointContext(int i) {
+            boolean isInput = i < inputCount();
+            nodes.numbers[context + 1] = isInput ? 0 : 1;
+            nodes.numbers[context + 2] = isInput ? inputAt(i) : policies[i - inputCount()];
         }
 
         private void writeSpent(Coins spent) {
@@ -1616,8 +1623,11 @@ public final class CoinScripts {
         }
 
         int add(int kind, long number, int first, int second) {
-            int value = Math.min(top, ROOM - 1);
-            put(value, kind, number, first, second);
+            int value = top < ROOM ? top : ROOM - 1;
+            kinds[value] = (byte) kind;
+            numbers[value] = number;
+            firsts[value] = first;
+            seconds[value] = second;
             top = value + 1;
             return value;
         }
@@ -1654,6 +1664,7 @@ public final class CoinScripts {
     /** What BUILTINS take and come to. */
     static final class Builtins {
         static final int MOST_TAKEN = 3;
+        private static final long LEAST_LONG = 1L << 63;
 
         private static final int ANY = 6;
         private static final int FORMS = 6;
@@ -1710,8 +1721,21 @@ public final class CoinScripts {
             }
         }
 
-        /** The VALUE that 0 .. 9 come to, NONE without such a result. */
-        int resultOfIntegers(int builtin) {
+        /** The VALUE that it comes to, NONE without such a result. */
+        int resultOf(int builtin) {
+            if (builtin < 10) {
+                return resultOfIntegers(builtin);
+            }
+            if (builtin < 16) {
+                return resultOfBytes(builtin);
+            }
+            if (builtin == 16) {
+                return values.numbers[given[0]] == 1 ? given[1] : given[2];
+            }
+            return builtin < 26 ? resultOfData(builtin) : resultOfLists(builtin);
+        }
+
+        private int resultOfIntegers(int builtin) {
             long a = values.numbers[given[0]];
             long b = values.numbers[given[1]];
             switch (builtin) {
@@ -1726,7 +1750,7 @@ public final class CoinScripts {
         }
 
         private int product(long a, long b) {
-            boolean isNoLong = b != 0 && (b == -1 ? a == Long.MIN_VALUE : a * b / b != a);
+            boolean isNoLong = b != 0 && (b == -1 ? a == LEAST_LONG : a * b / b != a);
             return isNoLong ? NONE : integer(a * b);
         }
 
@@ -1735,7 +1759,7 @@ public final class CoinScripts {
                 return NONE;
             }
             boolean isQuotient = builtin == 3 || builtin == 5;
-            if (isQuotient && a == Long.MIN_VALUE && b == -1) {
+            if (isQuotient && a == LEAST_LONG && b == -1) {
                 return NONE;
             }
             switch (builtin) {
@@ -1746,8 +1770,7 @@ public final class CoinScripts {
             }
         }
 
-        /** 10 .. 15, likewise. */
-        int resultOfBytes(int builtin) {
+        private int resultOfBytes(int builtin) {
             int place = values.firsts[given[0]];
             int count = values.seconds[given[0]];
             int other = given[1];
@@ -1785,12 +1808,7 @@ public final class CoinScripts {
             return values.add(Values.BYTES, 0, values.firsts[given[2]] + (int) from, (int) many);
         }
 
-        int choice() {
-            return values.numbers[given[0]] == 1 ? given[1] : given[2];
-        }
-
-        /** 17 .. 25, likewise. */
-        int resultOfData(int builtin) {
+        private int resultOfData(int builtin) {
             int value = given[0];
             int node = values.firsts[value];
             switch (builtin) {
@@ -1827,8 +1845,7 @@ public final class CoinScripts {
             }
         }
 
-        /** 26 .. 31, likewise. */
-        int resultOfLists(int builtin) {
+        private int resultOfLists(int builtin) {
             int node = values.firsts[given[0]];
             int count = nodes.counts[node];
             switch (builtin) {
@@ -1900,7 +1917,8 @@ public final class CoinScripts {
         private static final int GIVE = 1;
         private static final int CALL = 2;
         private static final int FINISH = 3;
-        private static final int OVER = 4;
+        private static final int RESULT = 4;
+        private static final int OVER = 5;
 
         private static final int FOR_FUNCTION = 0;
         private static final int FOR_ARGUMENT = 1;
@@ -2007,8 +2025,11 @@ public final class CoinScripts {
                     case CALL:
                         call();
                         break;
-                    default:
+                    case FINISH:
                         finish();
+                        break;
+                    default:
+                        takeResult(builtins.resultOf((int) values.numbers[function]));
                         break;
                 }
             }
@@ -2170,17 +2191,20 @@ public final class CoinScripts {
             return count;
         }
 
-        /** The BUILTIN is DONE. */
+        /** The BUILTIN is DONE, as far as its VALUES allow. */
         private void finish() {
             int builtin = (int) values.numbers[function];
             if (!paysSteps(gather(builtin) + 1)) {
                 return;
             }
-            if (!builtins.areOfKinds(builtin)) {
+            if (builtins.areOfKinds(builtin)) {
+                mode = RESULT;
+            } else {
                 fail(WRONG_KIND);
-                return;
             }
-            int result = resultOf(builtin);
+        }
+
+        private void takeResult(int result) {
             if (result == NONE) {
                 fail(NO_RESULT);
             } else if (paysMemory(values.sizeOf(result))) {
@@ -2200,19 +2224,6 @@ public final class CoinScripts {
                 applied = values.seconds[applied];
             }
             return sizes;
-        }
-
-        private int resultOf(int builtin) {
-            if (builtin < 10) {
-                return builtins.resultOfIntegers(builtin);
-            }
-            if (builtin < 16) {
-                return builtins.resultOfBytes(builtin);
-            }
-            if (builtin == 16) {
-                return builtins.choice();
-            }
-            return builtin < 26 ? builtins.resultOfData(builtin) : builtins.resultOfLists(builtin);
         }
     }
 }

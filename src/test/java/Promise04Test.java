@@ -64,6 +64,13 @@ public final class Promise04Test {
             Check.due("endowOwner(1, 100)", bench.x.endowOwner(1, 100), k);
         }
         Check.due("endowOwner of one too many", bench.x.endowOwner(1, 100), -1);
+        Check.due("outputOf(1023, 0)", bench.x.outputOf(1023, 0), 1);
+        Check.due("outputOf(1024, 0)", bench.x.outputOf(1024, 0), -1);
+        Check.due("datumOf(1024, 0)", bench.x.datumOf(1024, 0), -1);
+        Check.due("coinOf(1024, 0, 0) throws", bench.coinThrows(1024, 0, 0), true);
+        Check.due("ownedBy(1, 1023)", bench.x.ownedBy(1, 1023), 1023);
+        Check.due("ownedBy(1, 1024)", bench.x.ownedBy(1, 1024), -1);
+        Check.due("an INPUT 1024", bench.submit(new Tx().in(1024).fee(100).sign(1)), 8);
         bench.dueLook("OUTPUTS", 2, 1024);
         Check.due("a transaction that makes one more", bench.submit(
                 new Tx().in(0).pay(1, 50).fee(50).sign(1)), 15);

@@ -7,6 +7,7 @@ public final class Promise06ContextTest {
         ofAPolicy();
         ofAnInput();
         ofSeveral();
+        fullTape();
         Check.end();
     }
 
@@ -85,5 +86,37 @@ public final class Promise06ContextTest {
         Check.due("runs of SCRIPT 0", bench.x.scriptOf(0, 3), 2);
         Check.due("a POLICY runs once", bench.x.scriptOf(1, 3), 1);
         Check.due("runs of SCRIPT 2", bench.x.scriptOf(2, 3), 1);
+    }
+
+    private static Data rowOf(int value) {
+        byte[] row = new byte[64];
+        java.util.Arrays.fill(row, (byte) value);
+        return Data.bytesOf(row);
+    }
+
+    private static Term both(Term one, Term other) {
+        return Term.fn(16, one, other, Term.t(0));
+    }
+
+    /** BYTES of a full TAPE, of a DATUM, of a script and of results are there at once. */
+    private static void fullTape() {
+        Data datum = Data.l(rowOf(1), Data.bs(59));
+        Data last = rowOf(61);
+        Term joined = Term.fn(14, Term.fn(10, Term.s(1, 2), Term.s(3)), Term.fn(10, Term.s(1), Term.s(2, 3)));
+        Term isLast = Term.fn(17, Term.fn(26, Term.fn(27, Term.v(2))), Term.make(last));
+        Bench bench = new Bench(1);
+        bench.x.endowOwner(1, 9000);
+        bench.x.endowOwner(1, 10000);
+        bench.register(Term.lams(3, both(joined, both(Term.fn(17, Term.v(3), Term.make(datum)), isLast))));
+        bench.register(Term.lams(2, both(joined, isLast)));
+        Check.due("to the SCRIPT", bench.submit(new Tx().in(0).fee(1000).sign(1).payScript(0, 8000, datum)), 0);
+        Data[] rows = new Data[58];
+        java.util.Arrays.fill(rows, rowOf(5));
+        Data redeemer = Data.l(Data.l(rows), last);
+        Tx tx = new Tx().in(2, Data.l(Data.i(0), last)).back(1).fee(1000).sign(1).mint(2, 0, 1).redeem(2, redeemer)
+                .pay(Tx.owner(1), Tx.value(0, 0, 7000, 2, 0, 1), Data.i(0));
+        Check.due("the TAPE is nearly full", tx.encode().length > 4000, true);
+        Check.due("all are as they were given", bench.submit(tx), 0);
+        bench.dueLatest("both ran", 0, -1, 2, 0);
     }
 }

@@ -127,6 +127,8 @@ public final class Promise06JudgeTest {
         due(bench, "sums that would wrap", tx, 11);
         tx = new Tx().in(0).fee(1000).sign(0).pay(9, MOST).pay(9, MOST).pay(9, MOST).pay(9, MOST);
         due(bench, "four times 2^62 are not 0", tx, 11);
+        tx = new Tx().in(0).fee(100).sign(0).pay(9, MOST - 1).pay(9, MOST - 1).pay(9, MOST - 1).pay(9, MOST - 1).pay(9, 904);
+        due(bench, "2^64 + 900 are not 900", tx, 11);
         due(bench, "a KIND that there is not", new Tx().in(0).fee(100).sign(0)
                 .pay(Tx.owner(9), Tx.value(0, 0, 900, 3, 1, 1), Data.i(0)), 11);
         due(bench, "two INPUTS, three OUTPUTS",
