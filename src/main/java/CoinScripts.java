@@ -858,6 +858,8 @@ public final class CoinScripts {
 
     /** AMOUNTS of KINDS, in the order of the KINDS. */
     static final class Coins {
+        private static final long SIGN = 1L << 63;
+
         final int[] policies;
         final long[] names;
         final long[] amounts;
@@ -879,7 +881,8 @@ public final class CoinScripts {
         }
 
         static boolean isAhead(int policy, long name, int otherPolicy, long otherName) {
-            return policy != otherPolicy ? policy < otherPolicy : Long.compareUnsigned(name, otherName) < 0;
+            // With their highest bits turned, numbers without a sign lie as those with one do.
+            return policy != otherPolicy ? policy < otherPolicy : (name ^ SIGN) < (otherName ^ SIGN);
         }
 
         private boolean isAt(int place, int policy, long name) {
