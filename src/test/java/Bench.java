@@ -4,10 +4,10 @@ import java.util.List;
 
 /** An object under test, with shorter ways to give it bytes. */
 final class Bench {
-    final CoinScripts x;
+    final Face x;
 
     Bench(int depth) {
-        x = new CoinScripts(depth);
+        x = new Face(depth);
     }
 
     /** The bytes come to the TAPE. */
@@ -25,6 +25,13 @@ final class Bench {
 
     Bench give(int... bytes) {
         return give(Data.b(bytes).bytes());
+    }
+
+    Bench endow(int many, int owner, long amount) {
+        for (int k = 0; k < many; k++) {
+            Check.due("endowOwner(" + owner + ", " + amount + ")", x.endowOwner(owner, amount) >= 0, true);
+        }
+        return this;
     }
 
     int register(Term term) {
@@ -47,6 +54,10 @@ final class Bench {
         return submit(tx.encode());
     }
 
+    void due(String what, Tx tx, int verdict) {
+        Check.due(what, submit(tx), verdict);
+    }
+
     void dueLatest(String what, long... want) {
         for (int which = 0; which < want.length; which++) {
             Check.due(what + ": latestOf(" + which + ")", x.latestOf(which), want[which]);
@@ -57,24 +68,46 @@ final class Bench {
         Check.due(what + ": lookAt(" + which + ")", x.lookAt(which), want);
     }
 
-    /** All that can be asked of the ledger, but for the TAPE and what is told of transactions and runs. */
-    List<Long> state() {
+    /** All that can be asked of OUTPUTS and SCRIPTS, of blocks and of runs. */
+    List<Long> ledger() {
         List<Long> all = new ArrayList<>();
-        for (int which : new int[] {0, 1, 2, 3, 4, 5, 7, 8}) {
+        for (int which : new int[] {0, 1, 2, 3, 4, 5, 7, 8, 10}) {
             all.add(x.lookAt(which));
         }
-        for (int number = 0; number < x.lookAt(2); number++) {
-            for (int what = 0; what < 6; what++) {
-                all.add((long) x.outputOf(number, what));
+        for (int number = 0; number < all.get(2); number++) {
+            addOutput(all, number);
+        }
+        for (int script = 0; script < all.get(5); script++) {
+            for (int what = 0; what < 4; what++) {
+                all.add((long) x.scriptOf(script, what));
             }
-            for (int i = 0; i < x.outputOf(number, 4); i++) {
-                for (int what = 0; what < 3; what++) {
-                    all.add(x.coinOf(number, i, what));
-                }
+        }
+        return all;
+    }
+
+    private void addOutput(List<Long> all, int number) {
+        int[] told = new int[6];
+        for (int what = 0; what < told.length; what++) {
+            told[what] = x.outputOf(number, what);
+            all.add((long) told[what]);
+        }
+        for (int i = 0; i < told[4]; i++) {
+            for (int what = 0; what < 3; what++) {
+                all.add(x.coinOf(number, i, what));
             }
-            for (int k = 0; k < x.outputOf(number, 5); k++) {
-                all.add((long) x.datumOf(number, k));
-            }
+        }
+        for (int k = 0; k < told[5]; k++) {
+            all.add((long) x.datumOf(number, k));
+        }
+    }
+
+    /** All of that, and what is told of the TAPE and of transactions. */
+    List<Long> everything() {
+        List<Long> all = ledger();
+        all.add(x.lookAt(6));
+        all.add(x.lookAt(9));
+        for (int which = 0; which < 8; which++) {
+            all.add((long) x.latestOf(which));
         }
         return all;
     }

@@ -2,8 +2,14 @@
 final class Check {
     private static int wrong;
     private static int asked;
+    private static String about = "";
 
     private Check() {
+    }
+
+    /** The words of the document that all that follows is about; empty: none. */
+    static void about(String words) {
+        about = words.isEmpty() ? "" : "\"" + words + "\": ";
     }
 
     static void due(String call, long got, long want) {
@@ -11,7 +17,7 @@ final class Check {
         if (got != want) {
             wrong++;
             if (wrong <= 50) {
-                System.out.println(call + " answered " + got + ", due is " + want);
+                System.out.println(about + call + " answered " + got + ", due is " + want);
             }
         }
     }

@@ -4,12 +4,13 @@ import java.util.Random;
 
 /** Scripts by seeds, as policies and as owners of outputs; what their runs come to against the model. */
 public final class MachineModelTest {
-    private static final int SEEDS = 150;
+    private static final int SEEDS = 1200;
+    private static final int SCRIPTS = 4;
     private static final int[] met = new int[7];
 
     private final Random random;
     private final Random0 maker;
-    private final CoinScripts x = new CoinScripts(1);
+    private final Face x = new Face(1);
     private final Model model = new Model(1);
     private final String name;
 
@@ -38,15 +39,15 @@ public final class MachineModelTest {
     }
 
     private void go() {
-        for (int k = 0; k < 100; k++) {
+        for (int k = 0; k < 4 * SCRIPTS; k++) {
             Check.due(name + "endowOwner", x.endowOwner(1, 10000), model.endowOwner(1, 10000));
         }
-        for (int k = 0; k < 40; k++) {
+        for (int k = 0; k < SCRIPTS; k++) {
             Term term = below(3) == 0 ? loop() : below(3) == 0 ? wildScript() : maker.script(2 + below(2));
             give(term.encode());
             Check.due(name + "registerScript()", x.registerScript(), model.registerScript());
         }
-        for (int script = 0; script < model.scriptCount() && Check.isGood(); script++) {
+        for (int script = 0; script < model.scriptCount() && x.callsLeft() > 150 && Check.isGood(); script++) {
             mint(script);
             spend(script);
         }

@@ -5,10 +5,12 @@ import java.util.Random;
 import java.util.TreeMap;
 import java.util.TreeSet;
 
-/** Many runs of calls by seeds, each answer against the one of the model. */
+/** Many runs of calls by seeds, each answer against the one of the model; none has more than 512 calls. */
 public final class ModelTest {
-    private static final int RUNS = 600;
+    private static final int RUNS = 2500;
     private static final int ROUNDS = 60;
+    /** What a round may need beside the calls for its bytes. */
+    private static final int ROUND_CALLS = 30;
     private static final long MOST = 1L << 62;
 
     private static final int[] met = new int[21];
@@ -17,15 +19,16 @@ public final class ModelTest {
 
     private final Random random;
     private final Random0 maker;
-    private final CoinScripts x;
+    private final Face x;
     private final Model model;
     private final String name;
+    private boolean isOver;
 
     private ModelTest(long seed) {
         random = new Random(seed);
         maker = new Random0(random);
         int depth = random.nextInt(8) - 1;
-        x = new CoinScripts(depth);
+        x = new Face(depth);
         model = new Model(depth);
         name = "seed " + seed + ": ";
     }
@@ -61,7 +64,7 @@ public final class ModelTest {
         if (below(2) == 0) {
             endow();
         }
-        for (int round = 0; round < ROUNDS && Check.isGood(); round++) {
+        for (int round = 0; round < ROUNDS && !isOver && Check.isGood(); round++) {
             switch (below(20)) {
                 case 0: register(); break;
                 case 1: close(); break;
@@ -70,14 +73,22 @@ public final class ModelTest {
                 case 4: wrongBytes(); break;
                 default: submit(); break;
             }
-            lookAll();
+            isOver = isOver || x.callsLeft() < 2 * ROUND_CALLS;
+            if (!isOver) {
+                lookAround();
+            }
         }
         lookAtOutputs();
     }
 
-    private void give(byte[] bytes) {
+    /** False if there are too few calls left for that. */
+    private boolean give(byte[] bytes) {
+        isOver = bytes.length / 2 + ROUND_CALLS > x.callsLeft();
+        if (isOver) {
+            return false;
+        }
         for (int at = 0; at < bytes.length;) {
-            int n = Math.min(1 + below(8), bytes.length - at);
+            int n = Math.min(below(3) == 0 ? 2 + below(7) : 8, bytes.length - at);
             long v = 0;
             for (int k = 0; k < n; k++) {
                 v = v << 8 | bytes[at + k] & 255;
@@ -87,10 +98,11 @@ public final class ModelTest {
             Check.due(name + "giveTape", x.giveTape(v ^ noise, n), model.giveTape(v ^ noise, n));
             at += n;
         }
+        return true;
     }
 
     private void endow() {
-        int many = 1 + below(below(3) == 0 ? 4 : 24);
+        int many = Math.min(1 + below(below(3) == 0 ? 4 : 24), x.callsLeft() - 2 * ROUND_CALLS);
         for (int k = 0; k < many; k++) {
             int owner = below(12) == 0 ? 254 + below(4) : below(4) - (below(9) == 0 ? 1 : 0);
             long amount = below(15) == 0 ? maker.number() : below(10) == 0 ? MOST / 2 : 500 + below(100000);
@@ -107,8 +119,13 @@ public final class ModelTest {
             case 2: bytes = Term.lams(2, Term.t(1)).encode(); break;
             default: break;
         }
-        give(bytes);
-        Check.due(name + "registerScript()", x.registerScript(), model.registerScript());
+        registerGiven(bytes);
+    }
+
+    private void registerGiven(byte[] bytes) {
+        if (give(bytes)) {
+            Check.due(name + "registerScript()", x.registerScript(), model.registerScript());
+        }
     }
 
     private byte[] broken(byte[] bytes) {
@@ -142,11 +159,10 @@ public final class ModelTest {
             row = new byte[below(40)];
             random.nextBytes(row);
         }
-        give(row);
         if (below(2) == 0) {
-            submitGiven();
+            submitGiven(row);
         } else {
-            Check.due(name + "registerScript()", x.registerScript(), model.registerScript());
+            registerGiven(row);
         }
     }
 
@@ -164,11 +180,13 @@ public final class ModelTest {
         if (below(12) == 0) {
             bytes = broken(bytes);
         }
-        give(bytes);
-        submitGiven();
+        submitGiven(bytes);
     }
 
-    private void submitGiven() {
+    private void submitGiven(byte[] bytes) {
+        if (!give(bytes)) {
+            return;
+        }
         int verdict = model.submitTape();
         Check.due(name + "submitTape()", x.submitTape(), verdict);
         met[verdict]++;
@@ -328,49 +346,52 @@ public final class ModelTest {
         }
     }
 
-    private void lookAll() {
-        for (int which = -1; which <= 11; which++) {
+    /** Some questions of each sort, at most 15. */
+    private void lookAround() {
+        for (int k = 0; k < 4; k++) {
+            int which = below(13) - 1;
             Check.due(name + "lookAt(" + which + ")", x.lookAt(which), model.lookAt(which));
         }
-        for (int which = -1; which <= 8; which++) {
+        for (int k = 0; k < 5; k++) {
+            int which = below(10) - 1;
             Check.due(name + "latestOf(" + which + ")", x.latestOf(which), model.latestOf(which));
         }
         int script = below(8) - 1;
-        for (int what = -1; what <= 4; what++) {
-            Check.due(name + "scriptOf(" + script + ", " + what + ")", x.scriptOf(script, what), model.scriptOf(script, what));
-        }
+        int what = below(6) - 1;
+        Check.due(name + "scriptOf(" + script + ", " + what + ")", x.scriptOf(script, what), model.scriptOf(script, what));
         int address = below(3) == 0 ? 256 + below(5) : below(5) - 1;
         int i = below(6) - 1;
         Check.due(name + "ownedBy(" + address + ", " + i + ")", x.ownedBy(address, i), model.ownedBy(address, i));
         int policy = below(5) - 1;
         long kind = below(4) - 1;
         Check.due(name + "totalOf(" + policy + ", " + kind + ")", x.totalOf(policy, kind), model.totalOf(policy, kind));
-        if (below(6) == 0) {
-            lookAtOutputs();
+        if (below(2) == 0) {
+            lookAt(below(model.outs().size() + 2) - 1);
         }
     }
 
+    /** One OUTPUT after the other, the latest ones first, as long as there are calls left. */
     private void lookAtOutputs() {
-        for (int number = -1; number <= model.outs().size(); number++) {
-            for (int what = -1; what <= 6; what++) {
-                Check.due(name + "outputOf(" + number + ", " + what + ")",
-                        x.outputOf(number, what), model.outputOf(number, what));
-            }
-            for (int i = -1; i <= 8; i++) {
-                int what = below(5) - 1;
-                Long want = model.coinOf(number, i, what);
-                Long got = null;
-                try {
-                    got = x.coinOf(number, i, what);
-                } catch (IndexOutOfBoundsException e) {
-                    Check.due(name + "coinOf throws", want == null, true);
-                }
-                Check.due(name + "coinOf(" + number + ", " + i + ", " + what + ")",
-                        got == null ? 0 : got, want == null ? 0 : want);
-                Check.due(name + "coinOf throws as it has to", got == null, want == null);
-            }
-            int k = below(12) - 1;
-            Check.due(name + "datumOf(" + number + ", " + k + ")", x.datumOf(number, k), model.datumOf(number, k));
+        for (int number = model.outs().size(); number >= -1 && x.callsLeft() >= 3; number--) {
+            lookAt(number);
         }
+    }
+
+    private void lookAt(int number) {
+        int what = below(8) - 1;
+        Check.due(name + "outputOf(" + number + ", " + what + ")", x.outputOf(number, what), model.outputOf(number, what));
+        int k = below(12) - 1;
+        Check.due(name + "datumOf(" + number + ", " + k + ")", x.datumOf(number, k), model.datumOf(number, k));
+        int i = below(4) - 1;
+        int which = below(5) - 1;
+        Long want = model.coinOf(number, i, which);
+        Long got = null;
+        try {
+            got = x.coinOf(number, i, which);
+        } catch (IndexOutOfBoundsException e) {
+            Check.due(name + "coinOf throws", want == null, true);
+        }
+        Check.due(name + "coinOf(" + number + ", " + i + ", " + which + ")", got == null ? 0 : got, want == null ? 0 : want);
+        Check.due(name + "coinOf throws as it has to", got == null, want == null);
     }
 }
