@@ -16,6 +16,8 @@ public final class Promise05Test {
         Edge.of("Its DEPTH is 1, or 1 more than the greatest of what it is of: at most 60.", Promise05Test::depth);
         Edge.of("A VARIABLE i is bound by the i-th LAMBDA around it, the innermost being the first.",
                 Promise05Test::bound);
+        Edge.of("U of a number is written in groups of seven bits, the lowest first, a byte each, with 128 added in all but the"
+                + " last one", Promise05Test::bytesByHand);
         Edge.of("and as few of these as can be", Promise05Test::unsignedGroups);
         Edge.of("the highest bit of the last one (64) is the sign of all that would follow", Promise05Test::signedGroups);
         Edge.of("1: the TAPE ends where a byte is to be read", Promise05Test::endsAnywhere);
@@ -32,6 +34,7 @@ public final class Promise05Test {
         Edge.of("0 less the fault of reading (1 .. 6; the TAPE being empty, 1)", Promise05Test::emptyTape);
         Edge.of("-7 if bytes are left behind", Promise05Test::bytesLeft);
         Edge.of("-8 if it has more than 190 NODES", Promise05Test::mostNodes);
+        Edge.of("each is a CLOSED TERM of at most 190 NODES", Promise05Test::largestScriptRuns);
         Edge.of("-9 if there are 32 SCRIPTS (the first of these)", Promise05Test::mostScripts);
         Edge.of("SCRIPTS, up to 32, have the numbers 0, 1, .. in the order in which they were registered",
                 Promise05Test::numbersOfScripts);
@@ -206,6 +209,29 @@ public final class Promise05Test {
         more[row.length - 1] |= (byte) 128;
         more[row.length] = (byte) last;
         return more;
+    }
+
+    private static void dueBytes(String what, byte[] got, int... want) {
+        Check.due("the bytes of " + what, Arrays.equals(got, Data.b(want).bytes()), true);
+    }
+
+    /** That the tests themselves write them as the document says. */
+    private static void bytesByHand() {
+        dueBytes("VARIABLE 1", variableOf(1), 0, 1);
+        dueBytes("VARIABLE 127", variableOf(127), 0, 127);
+        dueBytes("VARIABLE 128", variableOf(128), 0, 128, 1);
+        dueBytes("VARIABLE 200", variableOf(200), 0, 200, 1);
+        dueBytes("VARIABLE 2^31 - 1", variableOf(2147483647), 0, 255, 255, 255, 255, 7);
+        dueBytes("INTEGER 0", Term.i(0).encode(), 7, 0);
+        dueBytes("INTEGER -1", Term.i(-1).encode(), 7, 127);
+        dueBytes("INTEGER 63", Term.i(63).encode(), 7, 63);
+        dueBytes("INTEGER 64", Term.i(64).encode(), 7, 192, 0);
+        dueBytes("INTEGER -64", Term.i(-64).encode(), 7, 64);
+        dueBytes("INTEGER -65", Term.i(-65).encode(), 7, 191, 127);
+        dueBytes("2^63 - 1", Term.i(Long.MAX_VALUE).encode(), 7, 255, 255, 255, 255, 255, 255, 255, 255, 255, 0);
+        dueBytes("-2^63", Term.i(Long.MIN_VALUE).encode(), 7, 128, 128, 128, 128, 128, 128, 128, 128, 128, 127);
+        dueBytes("a TERM", Term.lam(Term.app(Term.fn(31, Term.v(1)), Term.s(9, 8))).encode(), 1, 2, 2, 6, 31, 0, 1, 8, 2, 9, 8);
+        due("a TERM", 0, 1, 2, 2, 6, 31, 0, 1, 8, 2, 9, 8);
     }
 
     private static void unsignedGroups() {
@@ -425,6 +451,34 @@ public final class Promise05Test {
         due("192 NODES", Term.delay(broad(191)), -8);
         due("199 NODES", broad(199), -8);
         due("200 NODES", Term.delay(broad(199)), -8);
+    }
+
+    /** Of DEPTH 60, too: what it comes to is told by its last NODE, the argument of its outermost let. */
+    private static Term largest(int lambdas) {
+        int lets = (59 - lambdas) / 2;
+        Term term = Term.v(lets);
+        for (int k = 1; k <= lets; k++) {
+            Term argument = k == lets ? Term.t(1) : Term.unit();
+            if (k == lets - 1) {
+                // It is not EVALUATED, but for its first NODE: 190 in all.
+                int rest = 190 - lambdas - 3 * lets;
+                argument = rest % 2 == 0 ? Term.delay(broad(rest - 1)) : Term.delay(Term.delay(broad(rest - 2)));
+            }
+            term = Term.app(Term.lam(term), argument);
+        }
+        return Term.lams(lambdas, term);
+    }
+
+    private static void largestScriptRuns() {
+        for (int lambdas = 2; lambdas <= 3; lambdas++) {
+            Term script = largest(lambdas);
+            Check.due("NODES", script.nodes(), 190);
+            Check.due("DEPTH is near 60", script.depth() >= 59, true);
+            Bench bench = lambdas == 2 ? Lab.runScript(script, Data.i(0)) : Lab.runInput(script, Data.i(0), Data.i(0));
+            bench.dueLatest("it runs", 0, -1, 1, 0);
+            Check.due("its NODES", bench.x.scriptOf(0, 0), 190);
+            Check.due("its DEPTH", bench.x.scriptOf(0, 1), script.depth());
+        }
     }
 
     private static Bench full() {

@@ -16,6 +16,7 @@ public final class Promise06ContextTest {
         Edge.of("PAID, a LIST of a CONSTRUCTOR 0 for each OUTPUT, of its ADDRESS and an INTEGER, its BASE.",
                 Promise06ContextTest::paid);
         bytesOfAllKinds();
+        bytesOfResults();
         Check.end();
     }
 
@@ -138,7 +139,7 @@ public final class Promise06ContextTest {
         Check.due("a MINT of nothing asks for no run", new Bench(1).endow(2, 1, 250).submit(tx), 0);
     }
 
-    /** Three POLICIES that accept, and the one of an INPUT that asks; OUTPUTS 4 and 5 have KINDS that lie between one another. */
+    /** Three POLICIES that accept; OUTPUT 4 is of a script that asks, it and 5 have KINDS that lie between one another. */
     private static Bench withKinds() {
         Bench bench = new Bench(1).endow(4, 1, 1000);
         for (int k = 0; k < 3; k++) {
@@ -260,5 +261,19 @@ public final class Promise06ContextTest {
         Check.due("the TAPE is long", tx.encode().length > 3000, true);
         bench.due("all are as they were given", tx, 0);
         bench.dueLatest("both ran", 0, -1, 2, 0);
+    }
+
+    /** The results of many joins change no BYTES that were there before. */
+    private static void bytesOfResults() {
+        int joins = 12;
+        Data datum = Data.l(rowOf(1, 64), rowOf(2, 59));
+        Data redeemer = Data.l(rowOf(3, 64), rowOf(4, 64), rowOf(5, 64));
+        Term term = both(Term.fn(17, Term.v(3 + joins), Term.make(datum)),
+                Term.fn(17, Term.v(2 + joins), Term.make(redeemer)));
+        for (int k = 0; k < joins; k++) {
+            term = Term.app(Term.lam(term), Term.fn(10, Term.ss(32), Term.ss(32)));
+        }
+        Bench bench = Lab.runInput(Term.lams(3, term), datum, redeemer);
+        bench.dueLatest("all are as they were given", 0, -1, 1, 0);
     }
 }

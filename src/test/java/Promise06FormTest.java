@@ -22,6 +22,8 @@ public final class Promise06FormTest {
         Edge.of("or CONSTRUCTOR 1 of an INTEGER, a SCRIPT that is registered.", Promise06FormTest::scripts);
         Edge.of("A VALUE is a LIST of 1 to 8 LISTS of three INTEGERS", Promise06FormTest::values);
         Edge.of("POLICY (one that there is)", Promise06FormTest::policies);
+        Edge.of("POLICY 0 has the NAME 0 alone, which is BASE; POLICY 1 + s is that of SCRIPT s.",
+                Promise06FormTest::lastPolicy);
         Edge.of("NAME (0, if POLICY is 0)", Promise06FormTest::nameOfBase);
         Edge.of("AMOUNT 1 .. 2^62", Promise06FormTest::amounts);
         Edge.of("KINDS lie by POLICY, then by NAME as a number without a sign.", Promise06FormTest::order);
@@ -412,6 +414,39 @@ public final class Promise06FormTest {
         dueValue("POLICY 2, of SCRIPT 1", Tx.value(0, 0, 900, 2, 0, 5), 11);
         due("POLICY 2, MINTED", minting().mint(2, 0, 5).redeem(2, Data.i(0))
                 .pay(Tx.owner(2), Tx.value(0, 0, 900, 2, 0, 5), Data.i(0)), 0);
+    }
+
+    /** 32 SCRIPTS, of which the last one alone accepts. */
+    private static Bench allScripts() {
+        Bench bench = new Bench(1).endow(10, 1, 1000);
+        for (int k = 0; k < 32; k++) {
+            Check.due("registerScript()", bench.register(Term.lams(2, Term.t(k / 31))), k);
+        }
+        return bench;
+    }
+
+    private static Tx mintingOf(long policy) {
+        return minting().mint(policy, 0, 5).redeem(policy, Data.i(0))
+                .pay(Tx.owner(2), Tx.value(0, 0, 900, policy, 0, 5), Data.i(0));
+    }
+
+    private static void lastPolicy() {
+        Bench bench = allScripts();
+        bench.due("POLICY 32", mintingOf(32), 0);
+        Check.due("SCRIPT 31 ran", bench.x.scriptOf(31, 3), 1);
+        Check.due("totalOf(32, 0)", bench.x.totalOf(32, 0), 5);
+        bench = allScripts();
+        bench.due("POLICY 31", mintingOf(31), 20);
+        Check.due("SCRIPT 30 ran", bench.x.scriptOf(30, 3), 1);
+        bench = allScripts();
+        bench.due("POLICY 1", mintingOf(1), 20);
+        Check.due("SCRIPT 0 ran", bench.x.scriptOf(0, 3), 1);
+        Refused.dueTx("POLICY 33", Promise06FormTest::allScripts, mintingOf(33), 7);
+        bench = allScripts();
+        bench.due("to SCRIPT 31", plain().payScript(31, 900, Data.i(0)), 0);
+        Check.due("outputOf(10, 0)", bench.x.outputOf(10, 0), 287);
+        Check.due("ownedBy(287, 0)", bench.x.ownedBy(287, 0), 10);
+        Refused.dueTx("to SCRIPT 32", Promise06FormTest::allScripts, plain().payScript(32, 900, Data.i(0)), 7);
     }
 
     private static void nameOfBase() {

@@ -24,12 +24,14 @@ public final class Promise06JudgeTest {
         Edge.of("or all of it has less BASE than twice the FEE", Promise06JudgeTest::smallCollateral);
         Edge.of("14: an OUTPUT has less than 2 BASE.", Promise06JudgeTest::leastBase);
         Edge.of("15: more than 1024 OUTPUTS would be made.", Promise06JudgeTest::mostOutputs);
+        Edge.of("At most 1024 OUTPUTS are made (as far as they are not undone).", Promise06JudgeTest::mostOutputsUndone);
         Edge.of("16: (if 13 asks for COLLATERAL) the CONTEXT would have more than 200 NODES.",
                 Promise06JudgeTest::largestContext);
         Edge.of("VERDICTS: the first one that holds", Promise06JudgeTest::orderOfVerdicts);
         Edge.of("VERDICT 0: it is APPLIED: its INPUTS are spent, its OUTPUTS made, in their order, the POT grows by the FEE.",
                 Promise06JudgeTest::applied);
         Edge.of("VERDICT 20: its COLLATERAL is TAKEN: it is spent, and the POT grows by its BASE.", Promise06JudgeTest::taken);
+        Edge.of("its VERDICT. The TAPE is empty then.", Promise06JudgeTest::tapeIsEmpty);
         Edge.of("PHASE TWO: the SCRIPTS of INPUTS, in their order, then those of the POLICIES of MINT, rising",
                 Promise06JudgeTest::severalScripts);
         Edge.of("At the first one that does not accept the VERDICT is 20.", Promise06JudgeTest::firstThatDoesNotAccept);
@@ -276,6 +278,9 @@ public final class Promise06JudgeTest {
         Tx tx = new Tx().in(0).pay(9, 900).fee(100).sign(0, 1, 2, 3, 4, 5, 6, 255);
         isApplied("the first of eight", tx);
         Bench bench = new Bench(1).endow(1, 255, 1000).endow(1, 0, 1000);
+        bench.due("OWNER 255 by none", new Tx().in(0).pay(9, 900).fee(100), 12);
+        bench.due("OWNER 255 by others", new Tx().in(0).pay(9, 900).fee(100).sign(0, 254), 12);
+        bench.due("COLLATERAL of OWNER 255 by none", new Tx().in(1).back(0).pay(9, 900).fee(100).sign(0), 12);
         bench.due("OWNER 255", new Tx().in(0).pay(9, 900).fee(100).sign(0, 1, 2, 3, 4, 5, 6, 255), 0);
         bench.due("OWNER 0 by none", new Tx().in(1).pay(9, 900).fee(100), 12);
         bench.due("OWNER 0", new Tx().in(1).pay(9, 900).fee(100).sign(0), 0);
@@ -329,6 +334,13 @@ public final class Promise06JudgeTest {
         Refused.dueTx("of a SCRIPT", Promise06JudgeTest::accepting, mintingWith(10), 13);
         Refused.dueTx("the second of a SCRIPT", Promise06JudgeTest::accepting, mintingWith(4, 10), 13);
         Refused.dueTx("the first of a SCRIPT", Promise06JudgeTest::accepting, mintingWith(10, 4), 13);
+        for (int owner : new int[] {0, 255}) {
+            Bench first = new Bench(1).endow(1, 1, 1000).endow(1, owner, 1000);
+            first.register(Term.lams(2, Term.t(1)));
+            Tx tx = new Tx().in(0).back(1).mint(1, 0, 1).redeem(1, Data.i(0)).fee(100)
+                    .pay(Tx.owner(1), Tx.value(0, 0, 900, 1, 0, 1), Data.i(0));
+            first.due("of OWNER " + owner, owner == 0 ? tx.sign(0, 1) : tx.sign(1, 255), 0);
+        }
         Bench bench = accepting();
         bench.due("not asked for, it may be of a SCRIPT", new Tx().in(2).back(10).pay(9, 900).fee(100).sign(1), 0);
         bench.due("not asked for, it may have another KIND", new Tx().in(3).back(11).pay(9, 900).fee(100).sign(0, 1), 0);
@@ -375,27 +387,52 @@ public final class Promise06JudgeTest {
                 new Tx().in(2).payScript(0, 1, Data.i(0)).fee(999).sign(1), 14);
     }
 
-    private static void mostOutputs() {
+    private static final Tx FIVE = new Tx().in(0).fee(100).sign(1)
+            .pay(1, 100).pay(1, 100).pay(1, 100).pay(1, 100).pay(1, 500);
+    private static final Tx FOUR = new Tx().in(0).fee(600).sign(1).pay(1, 100).pay(1, 100).pay(1, 100).pay(1, 100);
+
+    private static Bench with1020() {
         Bench bench = new Bench(1);
         bench.x.goOn();
-        bench.endow(1020, 1, 1000);
-        Tx five = new Tx().in(0).fee(100).sign(1).pay(1, 100).pay(1, 100).pay(1, 100).pay(1, 100).pay(1, 500);
-        Tx four = new Tx().in(0).fee(600).sign(1).pay(1, 100).pay(1, 100).pay(1, 100).pay(1, 100);
-        bench.due("1025", five, 15);
+        return bench.endow(1020, 1, 1000);
+    }
+
+    private static void mostOutputs() {
+        Bench bench = with1020();
+        bench.due("1025", FIVE, 15);
         bench.dueLatest("1025", 15, -1, 0, -1, -1, -1, -1);
         bench.dueLook("OUTPUTS", 2, 1020);
         bench.dueLook("LIVE ones", 3, 1020);
-        bench.due("1024", four, 0);
+        bench.due("1024", FOUR, 0);
         bench.dueLook("OUTPUTS", 2, 1024);
         bench.due("one more", new Tx().in(1).fee(100).sign(1).pay(1, 900), 15);
         bench.due("one more, with too little BASE", new Tx().in(1).fee(999).sign(1).pay(1, 1), 14);
         bench.due("no such INPUT", new Tx().in(1024).fee(100).sign(1), 8);
         bench.due("none more", new Tx().in(1).fee(1000).sign(1), 0);
+        bench.dueLook("OUTPUTS", 2, 1024);
+    }
+
+    private static void mostOutputsUndone() {
+        Bench bench = with1020();
+        bench.due("1024", FOUR, 0);
         bench.x.undoBlocks(0);
         bench.dueLook("undone", 2, 1020);
-        bench.due("1025", five, 15);
-        bench.due("1024 again", four, 0);
+        bench.due("1025", FIVE, 15);
+        bench.due("1024 again", FOUR, 0);
+        bench.dueLook("OUTPUTS", 2, 1024);
         bench.dueLook("the POT", 0, 600);
+    }
+
+    private static void tapeIsEmpty() {
+        Bench bench = withScripts(REFUSES);
+        bench.due("APPLIED", new Tx().in(2).pay(9, 900).fee(100).sign(1), 0);
+        bench.dueLook("the TAPE", 6, 0);
+        bench.due("TAKEN", unlocking(100).back(4), 20);
+        bench.dueLook("the TAPE", 6, 0);
+        bench.due("refused", unlocking(100).back(4), 8);
+        bench.dueLook("the TAPE", 6, 0);
+        Check.due("nothing is left of it", bench.x.submitTape(), 1);
+        Check.due("registerScript()", bench.x.registerScript(), -1);
     }
 
     /** OUTPUTS 6 .. 10 have BASE and seven KINDS of POLICY 1 each, with NAMES 10 * k + 1 .. 10 * k + 7. */

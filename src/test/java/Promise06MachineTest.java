@@ -459,39 +459,44 @@ public final class Promise06MachineTest {
     private static void nothingIsKept() {
         Term self = Term.app(Term.v(1), Term.v(1));
         Term context = Term.v(2);
-        Term[] fails = {Term.app(Term.unit(), Term.app(Term.unit(), Term.error())), Term.app(Term.unit(), Term.force(Term.unit())),
+        // Each of these makes some 200 times 64 bytes.
+        Term joins = loop(Term.app(Term.lam(Term.app(Term.v(2), Term.v(2))), Term.fn(10, Term.ss(32), Term.ss(32))));
+        Term[] fails = {Term.app(Term.unit(), Term.app(Term.unit(), Term.error())),
+            Term.app(Term.unit(), Term.force(Term.unit())),
             Term.app(Term.unit(), Term.fn(3, Term.i(1), Term.i(0))),
             loop(Term.app(Term.lam(Term.app(Term.v(2), Term.v(2))), Term.fn(17, context, context))),
-            loop(self), loop(Term.force(self))};
+            loop(self), loop(Term.force(self)), joins, joins};
+        int[] answers = {1, 2, 3, 4, 5, 6, 5, 5};
         // Its own VARIABLES, BYTES and DATA.
         Term good = Term.app(Term.lam(Term.fn(16, Term.fn(14, Term.fn(10, Term.s(1), Term.s(2, 3)), Term.v(1)),
                 Term.fn(17, Term.v(3), Term.make(Data.l(Data.b(4)))), Term.t(0))), Term.fn(10, Term.s(1, 2), Term.s(3)));
-        Bench bench = new Bench(1).endow(8, 1, 10000);
+        Bench bench = new Bench(1).endow(FIRST, 1, 10000).endow(1, 1, 10000);
         bench.register(Term.lams(2, good));
         for (Term term : fails) {
             bench.register(Term.lams(2, term));
         }
-        bench.due("at first", minting(7, 0, 1), 0);
+        bench.due("at first", minting(FIRST, 0, 1), 0);
         int steps = bench.x.latestOf(4);
         int memory = bench.x.latestOf(5);
         for (int k = 0; k < fails.length; k++) {
-            bench.due("it fails", minting(8 + k, k, 2 + k), 20);
-            Check.due("the machine's answer", bench.x.latestOf(3), k + 1);
+            int made = FIRST + 1 + k;
+            bench.due("it fails", minting(made, k, 2 + k), 20);
+            Check.due("the machine's answer", bench.x.latestOf(3), answers[k]);
             Check.due("no VALUE", bench.x.latestOf(6), -1);
-            bench.due("behind " + (k + 1), minting(8 + k, 6, 1), 0);
-            bench.dueLatest("behind " + (k + 1), 0, -1, 1, 0, steps, memory, 2);
+            bench.due("behind " + answers[k], minting(made, FIRST - 1, 1), 0);
+            bench.dueLatest("behind " + answers[k], 0, -1, 1, 0, steps, memory, 2);
         }
     }
 
-    /** An INPUT of OWNER 1 goes to one OUTPUT, together with one more of a KIND of the POLICY. */
+    private static final int FIRST = 9;
+
+    /** The last OUTPUT that was made goes to one more, together with one more of a KIND of the POLICY. */
     private static Tx minting(int in, int back, int policy) {
-        boolean isFirst = in == 7;
-        long base = 10000 - 100L * (isFirst ? 1 : in - 6);
-        Tx tx = new Tx().in(in).back(back).fee(100).sign(1).redeem(policy, Data.l(Data.b(4)));
-        if (policy == 1) {
-            long held = isFirst ? 0 : in - 7;
-            return tx.mint(1, 0, 1).pay(Tx.owner(1), Tx.value(0, 0, base, 1, 0, held + 1), Data.i(0));
-        }
-        return tx.mint(policy, 0, 1).pay(Tx.owner(1), Tx.value(0, 0, base, 1, 0, in - 7, policy, 0, 1), Data.i(0));
+        int before = in - FIRST;
+        long base = 10000 - 100L * (before + 1);
+        Tx tx = new Tx().in(in).back(back).fee(100).sign(1).mint(policy, 0, 1).redeem(policy, Data.l(Data.b(4)));
+        Data value = policy == 1 ? Tx.value(0, 0, base, 1, 0, before + 1)
+                : Tx.value(0, 0, base, 1, 0, before, policy, 0, 1);
+        return tx.pay(Tx.owner(1), value, Data.i(0));
     }
 }

@@ -12,8 +12,10 @@ public final class Promise06ReadingTest {
                 Promise06ReadingTest::ends);
         Edge.of("an INTEGER (a long)", Promise06ReadingTest::integers);
         Edge.of("BYTES, 0 to 64", Promise06ReadingTest::bytes);
+        Edge.of("(in their order, the same key as often as one likes)", Promise06ReadingTest::maps);
         Edge.of("a CONSTRUCTOR with a number 0 .. 127", Promise06ReadingTest::constructors);
         Edge.of("if n is below 7, else 1273 + n", Promise06ReadingTest::numbersOfConstructors);
+        Edge.of("An INTEGER v: a HEAD of kind 0 and v, or below 0 of kind 1 and -1 - v.", Promise06ReadingTest::bytesByHand);
         Edge.of("if that is below 24; else a byte 32 * kind + 24, 25, 26 or 27", Promise06ReadingTest::heads);
         Edge.of("2: the number of a HEAD is in more bytes than it needs.", Promise06ReadingTest::tooManyBytes);
         Edge.of("its byte has the lowest five bits 28 .. 31, its kind is 3 or 7", Promise06ReadingTest::wrongFirstBytes);
@@ -26,6 +28,7 @@ public final class Promise06ReadingTest {
         Edge.of("4: the DEPTH would be above 12.", Promise06ReadingTest::tooDeep);
         Edge.of("are its NODES: at most 200.", Promise06ReadingTest::nodes);
         Edge.of("5: there would be more than 200 NODES.", Promise06ReadingTest::tooManyNodes);
+        Edge.of("The place of 2 to 5 is the first byte of the HEAD.", Promise06ReadingTest::places);
         Edge.of("3 for its lowest five bits or kind (as soon as its first byte is read), 1 for its number, 2, 3 for its"
                 + " number", Promise06ReadingTest::orderWithinAHead);
         Edge.of("(but for that which follows a HEAD of kind 6) 4, 5: a NODE is seen with its HEAD",
@@ -127,6 +130,64 @@ public final class Promise06ReadingTest {
             Lab.dueData("BYTES " + many, Term.fn(23, Term.ss(many)), Data.bs(many));
         }
         due("BYTES 65", 3, 0, Bench.join(head(2, BigInteger.valueOf(65)), new byte[65]));
+    }
+
+    private static void maps() {
+        Data same = Data.m(Data.i(1), Data.i(2), Data.i(1), Data.i(2), Data.i(1), Data.b());
+        isRead("the same key", same.encode());
+        Data[] others = {Data.m(Data.i(1), Data.i(2), Data.i(1), Data.b(), Data.i(1), Data.i(2)),
+            Data.m(Data.i(1), Data.i(2), Data.i(1), Data.b()),
+            Data.m(Data.i(2), Data.i(1), Data.i(1), Data.i(2), Data.i(1), Data.b())};
+        Term isSame = Term.fn(17, Term.make(same), Lab.REDEEMER);
+        Check.due("in the same order", Lab.accepts(isSame, same), true);
+        for (Data other : others) {
+            Check.due("in another order", Lab.accepts(isSame, other), false);
+        }
+    }
+
+    private static void dueBytes(Data data, int... want) {
+        Check.due("the bytes of " + data.form() + " " + data.number(),
+                java.util.Arrays.equals(data.encode(), Data.b(want).bytes()), true);
+    }
+
+    /** That the tests themselves write them as the document says. */
+    private static void bytesByHand() {
+        dueBytes(Data.i(0), 0);
+        dueBytes(Data.i(23), 0x17);
+        dueBytes(Data.i(24), 0x18, 24);
+        dueBytes(Data.i(-1), 0x20);
+        dueBytes(Data.i(-24), 0x37);
+        dueBytes(Data.i(-25), 0x38, 24);
+        dueBytes(Data.i(255), 0x18, 255);
+        dueBytes(Data.i(256), 0x19, 1, 0);
+        dueBytes(Data.i(-256), 0x38, 255);
+        dueBytes(Data.i(-257), 0x39, 1, 0);
+        dueBytes(Data.i(65536), 0x1A, 0, 1, 0, 0);
+        dueBytes(Data.i(1L << 32), 0x1B, 0, 0, 0, 1, 0, 0, 0, 0);
+        dueBytes(Data.i(Long.MAX_VALUE), 0x1B, 127, 255, 255, 255, 255, 255, 255, 255);
+        dueBytes(Data.i(Long.MIN_VALUE), 0x3B, 127, 255, 255, 255, 255, 255, 255, 255);
+        dueBytes(Data.b(), 0x40);
+        dueBytes(Data.b(9, 8), 0x42, 9, 8);
+        dueBytes(Data.l(), 0x80);
+        dueBytes(Data.l(Data.i(1), Data.b()), 0x82, 1, 0x40);
+        dueBytes(Data.m(Data.i(1), Data.i(-2)), 0xA1, 1, 0x21);
+        dueBytes(Data.c(0), 0xD8, 121, 0x80);
+        dueBytes(Data.c(6, Data.i(3)), 0xD8, 127, 0x81, 3);
+        dueBytes(Data.c(7), 0xD9, 5, 0, 0x80);
+        dueBytes(Data.c(127, Data.l()), 0xD9, 5, 0x78, 0x81, 0x80);
+        for (long number : new long[] {0, 23, 24, -1, -24, -25, 255, 256, -256, -257}) {
+            Lab.dueInteger("INTEGER " + number, Term.i(number), number);
+        }
+    }
+
+    private static void places() {
+        due("2", 2, 4, 0x83, 0, 0x41, 7, 0x18, 1);
+        due("2", 2, 4, 0x83, 0, 0x41, 7, 0x1B, 0, 0, 0, 0, 255, 255, 255, 255);
+        due("3 of a first byte", 3, 4, 0x83, 0, 0x41, 7, 0x1F);
+        due("3 of a number", 3, 4, 0x83, 0, 0x41, 7, 0x58, 65);
+        due("3 of a number of kind 6", 3, 4, 0x83, 0, 0x41, 7, 0xD9, 5, 121, 0x80);
+        due("4", 4, 17, Bench.join(Data.b(0x83, 0, 0x43, 7, 7, 7).bytes(), Data.deep(13).encode()));
+        due("5", 5, 204, Bench.join(Data.b(0x98, 200, 0x43, 7, 7, 7).bytes(), new byte[198], Data.i(1000).encode()));
     }
 
     private static void constructors() {

@@ -8,8 +8,8 @@ public final class Promise14To16Test {
         Edge.of("NONE for any other which, or without one.", Promise14To16Test::noLatest);
         Edge.of("1: the place of the fault (VERDICTS 1 .. 5, else NONE)", Promise14To16Test::places);
         Edge.of("2: how many runs of SCRIPTS there were (also the one that did not accept)", Promise14To16Test::runs);
-        Edge.of("3: the machine's answer (0, or 1 .. 6), 4: STEPS, 5: MEMORY it cost, 6: the kind of its VALUE (NONE if it failed)"
-                + " (3 to 6: NONE if none ran), 7: bytes of the TAPE.", Promise14To16Test::lastRun);
+        Edge.of("3: the machine's answer (0, or 1 .. 6), 4: STEPS, 5: MEMORY it cost, 6: the kind of its VALUE (NONE if it"
+                + " failed) (3 to 6: NONE if none ran), 7: bytes of the TAPE.", Promise14To16Test::lastRun);
         Edge.of("Of the latest transaction that was submitted", Promise14To16Test::latestAlone);
         Edge.of("what 0: its NODES, 1: its DEPTH, 2: its bytes, 3: how often it has run.", Promise14To16Test::scripts);
         Edge.of("NONE if there is none such, or no such what.", Promise14To16Test::noScripts);
