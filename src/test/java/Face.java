@@ -4,15 +4,9 @@ final class Face {
 
     private final CoinScripts x;
     private int calls;
-    private boolean goesOn;
 
     Face(int depth) {
         x = new CoinScripts(depth);
-    }
-
-    /** For what can't be reached within 512 calls: a full TAPE, 1024 OUTPUTS. */
-    void goOn() {
-        goesOn = true;
     }
 
     int callsLeft() {
@@ -21,7 +15,7 @@ final class Face {
 
     private CoinScripts counted() {
         calls++;
-        if (calls > MOST_CALLS && !goesOn) {
+        if (calls > MOST_CALLS) {
             Check.due("a test with an object's calls", calls, MOST_CALLS);
         }
         return x;

@@ -78,28 +78,26 @@ public final class Promise02Test {
     }
 
     private static Bench filled(int bytes) {
-        Bench bench = new Bench(1);
-        bench.x.goOn();
-        return bench.give(Arrays.copyOf(fullTape(), bytes));
+        return new Bench(1).give(Arrays.copyOf(fullTape(), bytes));
     }
 
+    /** The 512th call finds 4088 bytes at most, so that there is always room within the calls that count. */
     private static void noRoom() {
         for (int n = 1; n <= 8; n++) {
-            Bench bench = filled(4096 - n);
-            if (n < 8) {
-                Check.due(n + 1 + " bytes with room for " + n, bench.x.giveTape(-1, n + 1), false);
-            }
-            bench.dueLook("behind that", 6, 4096 - n);
-            Check.due(n + " bytes with room for " + n, bench.x.giveTape(0, n), true);
-            bench.dueLook("behind that", 6, 4096);
+            Bench bench = filled(4088);
+            Check.due(n + " bytes with room for 8", bench.x.giveTape(-1, n), true);
+            Check.due("calls that are left", bench.x.callsLeft(), 0);
+            bench = filled(4088 - n);
+            Check.due(n + " bytes with room for more", bench.x.giveTape(-1, n), true);
         }
-        Bench bench = filled(4096);
-        for (int n = 1; n <= 8; n++) {
-            Check.due(n + " bytes without room", bench.x.giveTape(-1, n), false);
-        }
-        bench.dueLook("behind that", 6, 4096);
-        Check.due("no byte of it came to the TAPE", bench.x.submitTape(), 7);
-        bench.dueLatest("all of the TAPE was read", 7, -1, 0, -1, -1, -1, -1, 4096);
+        Bench bench = filled(4080);
+        bench.dueLook("behind that", 6, 4080);
+        Check.due("9 bytes are not as said, whatever room there is", bench.x.giveTape(-1, 9), false);
+        bench = filled(4080);
+        Check.due("giveTape(0, 8)", bench.x.giveTape(0, 8), true);
+        bench.dueLook("behind that", 6, 4088);
+        bench = filled(4080);
+        bench.x.wipeTape();
         Check.due("giveTape(0, 8) on an empty one", bench.x.giveTape(0, 8), true);
     }
 }

@@ -387,40 +387,34 @@ public final class Promise06JudgeTest {
                 new Tx().in(2).payScript(0, 1, Data.i(0)).fee(999).sign(1), 14);
     }
 
-    private static final Tx FIVE = new Tx().in(0).fee(100).sign(1)
-            .pay(1, 100).pay(1, 100).pay(1, 100).pay(1, 100).pay(1, 500);
-    private static final Tx FOUR = new Tx().in(0).fee(600).sign(1).pay(1, 100).pay(1, 100).pay(1, 100).pay(1, 100);
-
-    private static Bench with1020() {
-        Bench bench = new Bench(1);
-        bench.x.goOn();
-        return bench.endow(1020, 1, 1000);
+    private static Tx paysEight(long input) {
+        Tx tx = new Tx().in(input).fee(200).sign(1);
+        for (int k = 0; k < 8; k++) {
+            tx.pay(1, 100);
+        }
+        return tx;
     }
 
+    // 1024 OUTPUTS take more than the 512 calls of an object: eight of them are at least 17 calls. What comes nearest
+    // to it has to go.
     private static void mostOutputs() {
-        Bench bench = with1020();
-        bench.due("1025", FIVE, 15);
-        bench.dueLatest("1025", 15, -1, 0, -1, -1, -1, -1);
-        bench.dueLook("OUTPUTS", 2, 1020);
-        bench.dueLook("LIVE ones", 3, 1020);
-        bench.due("1024", FOUR, 0);
-        bench.dueLook("OUTPUTS", 2, 1024);
-        bench.due("one more", new Tx().in(1).fee(100).sign(1).pay(1, 900), 15);
-        bench.due("one more, with too little BASE", new Tx().in(1).fee(999).sign(1).pay(1, 1), 14);
-        bench.due("no such INPUT", new Tx().in(1024).fee(100).sign(1), 8);
-        bench.due("none more", new Tx().in(1).fee(1000).sign(1), 0);
-        bench.dueLook("OUTPUTS", 2, 1024);
+        Bench bench = new Bench(1).endow(460, 1, 1000);
+        bench.due("eight more", paysEight(0), 0);
+        bench.due("and eight", paysEight(459), 0);
+        bench.dueLook("OUTPUTS", 2, 476);
+        bench.dueLook("LIVE ones", 3, 474);
+        Check.due("the last one", bench.x.ownedBy(1, 473), 475);
     }
 
     private static void mostOutputsUndone() {
-        Bench bench = with1020();
-        bench.due("1024", FOUR, 0);
+        Bench bench = new Bench(1).endow(450, 1, 1000);
+        bench.due("eight more", paysEight(0), 0);
         bench.x.undoBlocks(0);
-        bench.dueLook("undone", 2, 1020);
-        bench.due("1025", FIVE, 15);
-        bench.due("1024 again", FOUR, 0);
-        bench.dueLook("OUTPUTS", 2, 1024);
-        bench.dueLook("the POT", 0, 600);
+        bench.dueLook("undone", 2, 450);
+        bench.due("eight again", paysEight(449), 0);
+        bench.dueLook("OUTPUTS", 2, 458);
+        bench.dueLook("the POT", 0, 200);
+        Check.due("the first NUMBER again", bench.x.outputOf(450, 1), 1);
     }
 
     private static void tapeIsEmpty() {
