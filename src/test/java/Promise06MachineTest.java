@@ -19,7 +19,8 @@ public final class Promise06MachineTest {
         Edge.of("LAMBDA, DELAY, BUILTIN: a FUNCTION, DELAYED, BUILTIN; this costs 1 of MEMORY.",
                 Promise06MachineTest::made);
         Edge.of("the VALUE has to be DELAYED, else it fails (2); its body is EVALUATED.", Promise06MachineTest::delayed);
-        Edge.of("the first VALUE has to be a FUNCTION or BUILTIN, else it fails (2)", Promise06MachineTest::functions);
+        Edge.of("APPLY: the function, then the argument is EVALUATED; the first VALUE has to be a FUNCTION or BUILTIN, else"
+                + " it fails (2), and is CALLED with the second one.", Promise06MachineTest::functions);
         Edge.of("To CALL a FUNCTION costs 1 of MEMORY", Promise06MachineTest::calls);
         Edge.of("To CALL a BUILTIN that takes more than one more VALUE costs 1 of MEMORY",
                 Promise06MachineTest::oneValueMore);
@@ -199,6 +200,11 @@ public final class Promise06MachineTest {
         Lab.due("a call of DELAYED", Term.app(Term.delay(Term.unit()), Term.unit()), 2, 3, 1, -1);
         Lab.due("the argument is EVALUATED before", Term.app(Term.unit(), Term.lam(Term.unit())), 2, 3, 1, -1);
         Lab.due("the argument fails before", Term.app(Term.unit(), Term.error()), 1, 3, 0, -1);
+        Term noFunction = Term.app(Term.unit(), Term.lam(Term.unit()));
+        Budget.dueSteps("the argument's STEP is there", 3, bound -> noFunction, 2, 3, 1, -1);
+        Budget.dueSteps("the argument's STEP is not there", 2, bound -> noFunction, 4, 2, 0, -1);
+        Budget.dueMemory("the argument's MEMORY is there", 1, bound -> noFunction, 2, 3, 1, -1);
+        Budget.dueMemory("the argument's MEMORY is not there", 0, bound -> noFunction, 5, 3, 0, -1);
         Lab.due("the function fails first", Term.app(Term.error(), Term.fn(0)), 1, 2, 0, -1);
         Lab.due("a DATUM as function", Term.app(Term.v(1), Term.v(2)), 2, 3, 0, -1);
         Lab.due("one VALUE too many", Term.fn(0, Term.i(1), Term.i(1), Term.i(1)), 2, 1 + 5 + 3 + 1, 3, -1);
